@@ -901,7 +901,7 @@ public final class RaidRoom {
         }
 
         static int above(int kind) {
-            return within(kind, FLYER, ABOVE.length - 1) ? ABOVE[kind] : -1;
+            return kind >= 0 && kind < ABOVE.length ? ABOVE[kind] : -1;
         }
 
         boolean isA(int flyer, int kind) {
