@@ -255,7 +255,7 @@ public final class RaidRoom {
     // ---- flyers
 
     public int flyer(int kind, int cell, int told, int many) {
-        if (!within(kind, FLYER, FRIEND) || !isTold(cell, many) || !within(told, 0, 3799) || told / 100 % 10 > 7) {
+        if (!within(kind, FLYER, FRIEND) || !isTold(cell, many) || !within(told, 0, 3999) || told / 100 % 10 > 7) {
             return finding(BEYOND);
         }
         int flyer = now.addFlyer(kind, cell, many);
@@ -736,11 +736,12 @@ public final class RaidRoom {
 
     /** Ways and distances on the land of 16 by 16 cells. */
     private static final class Moves {
+        static final int CELLS = 256;
         private static final int[] WAY_X = {1, 1, 0, -1, -1, -1, 0, 1};
         private static final int[] WAY_Y = {0, 1, 1, 1, 0, -1, -1, -1};
 
         static boolean isCell(int cell) {
-            return within(cell, 0, 255);
+            return cell >= 0 && cell < CELLS;
         }
 
         static int apart(int a, int b) {
@@ -865,7 +866,7 @@ public final class RaidRoom {
 
         int cellsSeen() {
             int many = 0;
-            for (int cell = 0; Moves.isCell(cell); cell++) {
+            for (int cell = 0; cell < Moves.CELLS; cell++) {
                 many += isSeen(cell) ? 1 : 0;
             }
             return many;
@@ -1149,7 +1150,8 @@ public final class RaidRoom {
             names[2] = c;
             names[3] = d;
             int top = 0;
-            for (int i = 0; i < made.get(rule, LENGTH); i++) {
+            int length = Math.min(made.get(rule, LENGTH), MOST_BYTES);
+            for (int i = 0; i < length; i++) {
                 top = apply(made.get(rule, CODE + i), top);
             }
             return peek(top - 1);

@@ -25,6 +25,7 @@ public final class LanguageTest {
         "int ahead(int,int,int)", "int voice(int,int,int)", "int trace(int)", "int sheet(int,int,int)", "int put(int,int,int)",
         "int move(int,int,int,int,int)", "int image()", "int restore()", "int tell(int)", "int check()", "int count(int)",
         "int found(int)"};
+    // Some of these the language allows; the class does without them, so that there is less to look at.
     private static final String[] FORBIDDEN = {"throw", "throws", "try", "catch", "finally", "synchronized", "assert", "import",
         "package", "protected", "volatile", "transient", "native", "yield", "var", "Object", "Exception", "Thread", "Random",
         "hashCode", "equals", "toString", "System\\s*\\.\\s*(?!arraycopy)\\w+", "\\w+Exact", "interface", "instanceof", "null"};

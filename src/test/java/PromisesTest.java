@@ -406,6 +406,18 @@ public final class PromisesTest {
         is(9, x.judge(511, 2));
         fillSheet(2, 8, -1, -1, -1, -1, -1, -1, -1, -1, -1, -1);
         is(KIND, x.judge(1023, 2));
+        x.sheet(2, 8, 0);
+        is(KIND, x.judge(0, 2), x.judge(1, 2));
+        fillSheet(2, 8, -1);
+        is(1, x.judge(1, 2), x.judge(8, 2));
+        // One that two follow, though each alone might.
+        fillSheet(2, 16, -1, 0, 0);
+        is(-1, x.judge(21, 2));
+        x.put(2, 1, -1);
+        is(2, x.judge(21, 2));
+        x.put(2, 1, 0);
+        x.put(2, 2, -1);
+        is(2, x.judge(21, 2));
         is(KIND, x.judge(511, 2));
     }
 
@@ -452,9 +464,9 @@ public final class PromisesTest {
         is(BEYOND, x.flight(0, 1, 1, 1, false));
         x.field(7);
         x.field(200);
-        is(0, x.flight(1, 99, 98, 9, false));
+        is(0, x.flight(1, 99, 99, 9, false));
         is(1, x.flight(0, 0, 0, 1, true));
-        int[] a = {4, 200, 0, 0, 0, 9, 1, 99, 98, -1, 0, 0};
+        int[] a = {4, 200, 0, 0, 0, 9, 1, 99, 99, -1, 0, 0};
         int[] b = {5, 7, 0, 0, 0, 1, 1, 0, 0, -1, 0, 0};
         for (int w = 0; w < 12; w++) {
             is(a[w], x.flyerIs(0, w));
@@ -553,6 +565,44 @@ public final class PromisesTest {
         x.minutes(1);
         is(1, x.flyerIs(0, 6));
         is(STATE, x.back(0));
+        // After flyer 0, and back to a field of another number.
+        promise(22);
+        x.flyer(1, cell(8, 8), 50, 9);
+        x.field(0);
+        x.field(cell(8, 8));
+        x.flight(1, 90, 9, 1, true);
+        x.send(1, 0);
+        x.minutes(1);
+        is(0, x.flyerIs(1, 6), x.flyerIs(1, 9));
+        is(10, x.flyerIs(1, 2));
+        is(1, x.back(1));
+        is(0, x.back(1));
+        x.minutes(1);
+        is(1, x.flyerIs(1, 6));
+        is(cell(8, 8), x.flyerIs(1, 1));
+        x.flyer(1, cell(15, 8), 99, 9);
+        x.send(1, 2);
+        x.minutes(4);
+        is(40, x.flyerIs(1, 2));
+        is(cell(15, 8), x.flyerIs(1, 1));
+        x.back(1);
+        x.minutes(3);
+        is(10, x.flyerIs(1, 2));
+        is(cell(9, 8), x.flyerIs(1, 1));
+        is(0, x.flyerIs(1, 6));
+        x.minutes(1);
+        is(1, x.flyerIs(1, 6));
+        promise(22);
+        x.field(cell(0, 0));
+        x.flight(0, 90, 9, 1, true);
+        x.flyer(1, cell(15, 0), 15, 9);
+        x.send(0, 1);
+        x.minutes(5);
+        x.back(0);
+        x.minutes(1);
+        is(5, x.flyerIs(0, 2));
+        x.minutes(1);
+        is(0, x.flyerIs(0, 2), x.flyerIs(0, 6));
     }
 
     private static void filling() {
@@ -793,6 +843,18 @@ public final class PromisesTest {
         is(32, x.townIs(0, 3));
         is(1, x.townIs(0, 2), x.townIs(0, 1), x.townIs(1, 2));
         is(2, x.count(13));
+        // Without a rule: on below 3.
+        promise(32);
+        x.town(cell(8, 8));
+        x.town(cell(9, 8));
+        x.flyer(1, cell(5, 8), 0, 4);
+        x.flyer(1, cell(11, 14), 0, 4);
+        x.minutes(1);
+        is(0, x.townIs(0, 1));
+        x.town(cell(3, 10));
+        x.minutes(1);
+        is(0, x.townIs(0, 1), x.townIs(1, 1));
+        is(1, x.townIs(2, 1));
         // By the names: far, many, weather, minute.
         promise(32);
         x.town(cell(8, 8));
@@ -867,6 +929,8 @@ public final class PromisesTest {
         // A text as long as the tape.
         is(0, rule("1+1+1+1+1+1+1+1+1+1+1+1+1+1+1+1+1+1+1+1+1+1+1+1+10", 0, 0));
         is(34, x.says(0, 0, 0, 0, 0));
+        is(1, rule("!1+1+1+1+1+1+1+1+1+1+1+1+1+1+1+1+1+1+1+1+1+1+1+1+1", 0, 0));
+        is(24, x.says(1, 0, 0, 0, 0));
         is(-60, rule("1+1+1+1+1+1+1+1+1+1+1+1+1+1+1+1+1+1+1+1+1+1+1+1+1+", 0, 0));
     }
 
@@ -971,6 +1035,9 @@ public final class PromisesTest {
         rule("0", 0, 0);
         is(4, x.force(0, 0), x.force(0, 1000));
         is(NONE, x.force(2, 0));
+        promise(26);
+        rule("0", 2, 0);
+        is(0, x.force(2, 0), x.force(2, 1000));
     }
 
     private static void hostile() {
@@ -1054,6 +1121,12 @@ public final class PromisesTest {
         x.flyer(1, cell(3, 8), 1000, 1);
         is(NONE, x.meeting(0, 1));
         is(2, x.meeting(0, 2));
+        // In the land's first cell.
+        promise(28);
+        x.field(cell(2, 2));
+        x.flight(0, 90, 9, 1, false);
+        x.flyer(1, cell(3, 0), 1430, 1);
+        is(3, x.meeting(0, 1));
         // As late as the height has it.
         promise(28);
         x.field(cell(0, 8));
@@ -1146,6 +1219,8 @@ public final class PromisesTest {
         is(-1, x.sending(60, 0));
         rule("0-9", 2, 0);
         is(6, x.sending(60, -1));
+        rule("2", 2, 0);
+        is(6, x.sending(60, -1));
         rule("d-4+u*3", 2, 0);
         is(4, x.sending(60, -1));
         x.send(7, 8);
@@ -1153,6 +1228,17 @@ public final class PromisesTest {
         rule("7", 2, 1);
         is(1, x.sending(60, -1));
         x.minutes(1);
+        is(0, x.sending(60, -1));
+        // None is kept if the rule comes to 0 or less.
+        promise(29);
+        x.field(cell(8, 8));
+        x.flight(0, 50, 9, 1, false);
+        x.flyer(1, cell(8, 8), 0, 1);
+        rule("0-1", 2, 0);
+        is(1, x.sending(60, -1));
+        rule("0", 2, 0);
+        is(1, x.sending(60, -1));
+        rule("1", 2, 0);
         is(0, x.sending(60, -1));
     }
 
@@ -1294,6 +1380,10 @@ public final class PromisesTest {
         }
         x.minutes(190);
         is(BEYOND, x.ahead(6, 0, 0));
+        for (int i = 0; i < 4; i++) {
+            x.town(0);
+        }
+        is(0, x.ahead(1, 5, 4), x.ahead(1, 4, 5));
         is(0, x.ahead(5, 3, 2), x.ahead(0, 3, 2));
     }
 
