@@ -779,6 +779,18 @@ public final class PromisesTest {
         is(1, x.flyerIs(0, 6));
         is(0, x.flyerIs(0, 2));
         is(-1, x.flyerIs(0, 9));
+        // After flyer 0.
+        promise(32);
+        x.flyer(1, cell(12, 9), 5, 4);
+        x.field(cell(8, 8));
+        x.flight(0, 9, 9, 1, false);
+        x.send(1, 0);
+        x.minutes(1);
+        is(cell(10, 9), x.flyerIs(1, 1));
+        is(5, x.flyerIs(1, 2));
+        x.minutes(1);
+        is(0, x.flyerIs(0, 5));
+        is(5, x.flyerIs(1, 8));
         // Two after one: the lesser number takes it, the other one turns in the same minute.
         promise(32);
         x.field(cell(8, 8));
@@ -1352,6 +1364,8 @@ public final class PromisesTest {
         promise(33);
         is(BEYOND, x.ahead(0, 0, 0), x.ahead(0, 4, 0));
         x.town(cell(8, 8));
+        is(BEYOND, x.ahead(0, 3, 0));
+        is(0, x.ahead(0, 4, 0));
         scene33();
         is(BEYOND, x.ahead(-1, 0, 0), x.ahead(201, 0, 0), x.ahead(1, -1, 0), x.ahead(1, 6, 0), x.ahead(1, 0, 2), x.ahead(1, 0, -1),
             x.ahead(1, 4, 2), x.ahead(1, 5, -1), x.ahead(1, 3, MAX), x.ahead(MAX, 0, 0), x.ahead(1, MIN, 0));
