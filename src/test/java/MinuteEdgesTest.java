@@ -136,6 +136,14 @@ public final class MinuteEdgesTest extends Edges {
         are(row(cell(0, 5), 0, GONE), placeOf(0));
     }
 
+    void promise32_oneThatWasMetGoesNoFarther() {
+        chase(50, 9, cell(8, 8), told(1, 0, 0), 3);
+        x.minutes(1);
+        are(row(cell(9, 8), 0, GONE), placeOf(1));
+        x.minutes(3);
+        are(row(cell(9, 8), 0, GONE), placeOf(1));
+    }
+
     // ---- 32, second: flights
 
     void promise32_theLastFuelIsFlownWith() {
@@ -420,6 +428,23 @@ public final class MinuteEdgesTest extends Edges {
         x.back(0);
         x.minutes(1);
         are(row(cell(10, 8), 10, UP), placeOf(0));
+    }
+
+    void promise32_eachFlightGoesBackToItsOwnField() {
+        x.field(cell(0, 0));
+        again(3, () -> x.field(cell(15, 0)));
+        x.field(cell(8, 8));
+        x.flight(4, 50, 9, 1, false);
+        x.flight(0, 50, 9, 1, true);
+        x.flyer(1, cell(4, 4), told(0, 0, 99), 1);
+        x.send(0, 2);
+        x.send(1, 2);
+        x.minutes(1);
+        x.back(0);
+        x.back(1);
+        x.minutes(1);
+        are(row(cell(8, 8), 0, DOWN), placeOf(0));
+        are(row(cell(0, 0), 0, DOWN), placeOf(1));
     }
 
     // ---- 32, third: towns

@@ -119,6 +119,16 @@ public final class PlanEdgesTest extends Edges {
         refused(NONE, () -> x.meeting(0, 1), () -> x.meeting(0, 2), () -> x.meeting(0, 3));
     }
 
+    void promise28_itMeetsOneInTheFirstCellAndInTheLast() {
+        x.field(cell(1, 1));
+        x.field(cell(14, 14));
+        x.flight(0, 50, 9, 1, false);
+        x.flight(1, 50, 9, 1, false);
+        x.flyer(1, cell(1, 1), told(1, 5, 0), 1);
+        x.flyer(1, cell(14, 14), told(1, 1, 0), 1);
+        are(row(1, 1), x.meeting(0, 2), x.meeting(1, 3));
+    }
+
     void promise28_noneIfItIsGoneInTheMinuteInWhichTheyWouldMeet() {
         x.field(cell(14, 8));
         x.flight(0, 50, 9, 1, false);
@@ -399,6 +409,14 @@ public final class PlanEdgesTest extends Edges {
         are(row(1, 1, 1), x.sending(60, -1), x.sending(60, -2), x.sending(60, 0));
     }
 
+    void promise29_aLesserRaidLeavesItToANearerOne() {
+        aFlight(50, 9);
+        raids(1, cell(13, 8));
+        raids(1, cell(9, 8));
+        raids(1, cell(4, 8));
+        are(row(1, 1, -1, -1, 0), x.sending(60, -1), x.sending(60, -2), x.sending(60, 0), x.sending(60, 1), x.sending(60, 2));
+    }
+
     void promise29_theLesserFlightAheadOfAGreaterOne() {
         x.field(cell(2, 8));
         flights(3);
@@ -584,7 +602,8 @@ public final class PlanEdgesTest extends Edges {
         fillSheet(0, 8, 0, 0, 1);
         for (int wrong : row(-1, 256, -32768, 32767)) {
             fillSheet(1, 16, 0, 255, wrong);
-            refused(KIND, () -> x.laying(0, 1, 1, 0));
+            fillSheet(2, 16, wrong, 0, 255);
+            refused(KIND, () -> x.laying(0, 1, 1, 0), () -> x.laying(0, 2, 1, 0));
         }
         fillSheet(1, 16, 0, 255);
         is(1, x.laying(0, 1, 1, 0));

@@ -425,7 +425,7 @@ public final class PlotEdgesTest extends Edges {
 
     void promise14_aPlotThatIsNotInTheSetIsNone() {
         plotTogether(5);
-        refused(NONE, () -> x.tracking(21, 1), () -> x.tracking(21, 3), () -> x.tracking(21, 5), () -> x.tracking(1, 24));
+        refused(NONE, () -> x.tracking(21, 1), () -> x.tracking(21, 3), () -> x.tracking(21, 5), () -> x.tracking(1, 24), () -> x.tracking(30, 0));
         is(-1, x.tracking(21, 0), x.tracking(21, 2), x.tracking(21, 4));
     }
 
@@ -487,6 +487,17 @@ public final class PlotEdgesTest extends Edges {
         x.minutes(1);
         x.plot(cell(8, 8), 1);
         are(row(2, 0, 1), x.tracking(7, -1), x.tracking(7, -2), x.tracking(7, 2));
+    }
+
+    void promise14_aLesserPlotLeavesItToANearerOne() {
+        seeAll();
+        x.plot(cell(8, 8), 1);
+        x.minutes(1);
+        x.plot(cell(10, 8), 1);
+        x.plot(cell(9, 8), 1);
+        x.plot(cell(8, 8), 1);
+        are(row(3, 0, -1, -1, 0), x.tracking(15, -1), x.tracking(15, -2), x.tracking(15, 1), x.tracking(15, 2), x.tracking(15, 3));
+        are(row(2, 1, -1, 0), x.tracking(7, -1), x.tracking(7, -2), x.tracking(7, 1), x.tracking(7, 2));
     }
 
     void promise14_theLesserPlotAheadOfAGreaterOne() {

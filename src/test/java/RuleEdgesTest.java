@@ -436,6 +436,10 @@ public final class RuleEdgesTest extends Edges {
         is(0, worth("f|0", 0, 0, 0, 0), worth("f&m", 5, 0, 0, 0), worth("f&m", 0, 5, 0, 0), worth("!f", -1, 0, 0, 0), worth("!f", 2, 0, 0, 0));
     }
 
+    void promise27_notTakesTheNextPartAlone() {
+        are(row(4, 3, 1, 0, 6), worth("5-!0"), worth("5-!0*2"), worth("!0-!1"), worth("!!3-!0"), worth("7-!(3<2)*1"));
+    }
+
     void promise27_theTruthIs1() {
         rule("!f+1", SIREN, 0);
         rule("(f|m)+1", SIREN, 0);
